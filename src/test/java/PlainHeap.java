@@ -349,9 +349,14 @@ final class PlainHeap {
         if (acts == 0) {
             return state.bag.contains(piece) ? new ArrayList<>() : null;
         }
+        // Only a TOP comes into THE BAG: without this the rows of three acts are too many to look at.
+        int place = state.placeOf(piece);
+        if (acts == 1 && place < 6 && state.top(place) != piece) {
+            return null;
+        }
         for (int code = 0; code < 3600; code++) {
-            int how = code / 1000, place = code / 100 % 10, other = code % 100;
-            boolean is = place < 6 && (how == 0 ? other == 0 : how == 3 ? other < 6 && other != place : other < 12);
+            int how = code / 1000, where = code / 100 % 10, other = code % 100;
+            boolean is = where < 6 && (how == 0 ? other == 0 : how == 3 ? other < 6 && other != where : other < 12);
             State then = is ? state.behind(code) : null;
             if (then != null && !state.feels(then)) {
                 List<Integer> row = firstRow(then, piece, acts - 1);
