@@ -31,14 +31,17 @@ final class EdgeActsTest {
         swapAtOnce();
         swapRefuses();
         pushToAnother();
+        pushOfTwelve();
         pushRefuses();
         feltIsNotDone();
         eatsTheLeast();
         eatsTheFirstOfLikeOnes();
         eatsNoRuby();
         eatsNothing();
+        eatsTwelve();
         eatsWhatWasToBeLaid();
         awakeIsCounted();
+        awakeIsCountedFarOn();
         turnOfNoneAndTwelve();
         turnOfEachPlace();
         turnIsNoAct();
@@ -283,6 +286,19 @@ final class EdgeActsTest {
         }
     }
 
+    /** Twelve, one behind the other: they lie the other way about then. */
+    private static void pushOfTwelve() {
+        WormHeap x = Check.made("c3@1,c3@1,c3@1,c3@1,c3@1,c3@1,c3@1,c3@1,c3@1,c3@1,c3@1,c3@1");
+        for (int i = 11; i >= 0; i--) {
+            check.due("13: the TOP of " + (i + 1), i, x.push(1, 4));
+            check.due("13: LOAD left", 3 * i, x.of(1, 0));
+            check.due("13: LOAD there", 3 * (12 - i), x.of(4, 0));
+            check.due("13: on the last", 11 - i, x.told(11, 4));
+        }
+        check.due("13: none lies there", NOT, x.push(1, 4));
+        check.due("13: unFELT", 0, x.count(3));
+    }
+
     /** "BAD: also one and the same". */
     private static void pushRefuses() {
         for (int place = 0; place < 6; place++) {
@@ -374,6 +390,31 @@ final class EdgeActsTest {
         dueEaten("c99@0");
         dueEaten("c99@0,c1@1,c1@2");
         dueEaten("r99@0");
+    }
+
+    /** Twelve in THE BAG are EATEN by twelve acts that are FELT, the least first; then there is none to lay. */
+    private static void eatsTwelve() {
+        WormHeap x = Check.made("c99,k50,l40,c70,c60,l51,k30,c20,c20,k18,l4,c5");
+        int[] order = {10, 11, 7, 8, 9, 6, 2, 5, 1, 4, 3, 0};
+        for (int i = 0; i < 12; i++) {
+            check.due("11: FELT", FULL, x.lay(0, 2));
+            check.due("11: EATEN as " + i, 7, x.told(order[i], 3));
+            check.due("11: so many are EATEN", i + 1, x.count(2));
+            check.due("11: so many are left", 11 - i, x.count(1));
+        }
+        check.due("11: it is EATEN itself", NOT, x.lay(0, 2));
+        check.due("11: AWAKE twelve times", 12, x.count(3));
+        check.due("11: nothing weighs", 0, x.count(4) + x.count(5));
+    }
+
+    /** It is AWAKE as often as a run can have it. */
+    private static void awakeIsCountedFarOn() {
+        WormHeap x = Check.made("c9@0,r9");
+        for (int i = 0; i < 500; i++) {
+            x.lift(0);
+        }
+        check.due("10: AWAKE 500 times", 500, x.count(3));
+        check.due("10: it lies there still", 0, x.of(0, 3));
     }
 
     private static void eatsWhatWasToBeLaid() {

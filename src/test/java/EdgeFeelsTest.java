@@ -36,6 +36,7 @@ final class EdgeFeelsTest {
         shareRefuses();
         imageOfNothing();
         imageKeepsAll();
+        imageKeepsEachNumber();
         imageKeepsNoSheetsNoTape();
         imageIsTheLast();
         restoreManyTimes();
@@ -266,15 +267,44 @@ final class EdgeFeelsTest {
             }, x -> { });
         }
         twins.unchanged("21: restore at once", EdgeFeelsTest::imaged, 1, WormHeap::restore);
-        WormHeap full = new WormHeap();
-        EdgePiecesTest.twelve(full);
-        full.image();
-        check.due("20: a HEAP leaves the IMAGE of twelve", 1, Check.heap(full, "r1@5"));
-        check.due("21: restore", 1, full.restore());
-        WormHeap due = new WormHeap();
-        EdgePiecesTest.twelve(due);
-        due.image();
-        twins.same("21: twelve are as they were", full, due);
+    }
+
+    private static void twelveKept(WormHeap x) {
+        Check.heap(x, "c1t0@0,k2t1@0,r3t2@0,c4t3@5,k5t0@5,l6@5,r7t1@1,c8t2@1,k9t3,r10t1,l11,k12t2@1");
+        for (int place = 0; place < 6; place++) {
+            x.sense(place, 10 * place + 1);
+        }
+        x.lift(0);
+        x.image();
+    }
+
+    /** Each number of each of twelve, each SENSE, AWAKE, the EATEN, how they lie: all of them are others in between. */
+    private static void imageKeepsEachNumber() {
+        String others = "r99t3@5,r98t3@5,c97t2@5,k96t1@4,l95@4,r94t1@4,c93t3@0,k92t1@0,r91t0@0,c90t3@3,k89t2,l88t1";
+        twins.changed("21: a HEAP of twelve others", EdgeFeelsTest::twelveKept, 1, x -> {
+            Check.heap(x, others);
+            for (int place = 0; place < 6; place++) {
+                x.sense(place, 9 - place);
+                x.lift(place);
+            }
+            return x.restore();
+        }, x -> { });
+        twins.changed("21: a HEAP of one", EdgeFeelsTest::twelveKept, 1, x -> {
+            Check.heap(x, "l50t3@2");
+            x.turn();
+            return x.restore();
+        }, x -> { });
+        twins.changed("20: a new IMAGE keeps the others", EdgeFeelsTest::twelveKept, 1, x -> {
+            Check.heap(x, others);
+            x.sense(5, 9);
+            x.image();
+            x.restore();
+            return x.image();
+        }, x -> {
+            Check.heap(x, others);
+            x.sense(5, 9);
+            x.image();
+        });
     }
 
     private static void imageKeepsNoSheetsNoTape() {

@@ -208,6 +208,11 @@ final class EdgePiecesTest {
         check.due("3: what the EATEN weighed", 1, x.told(1, 1));
         check.due("3: TOWN of the EATEN", 0, x.told(1, 2));
         check.due("3: the RUBY is in THE BAG", 6, x.told(3, 3));
+        WormHeap buried = Check.made("c1,c2,c9@0,c9@0,c9@0,c9@0,c9@0,c9@0,c9@0,c9@0,c9@0,c9@0");
+        check.due("3: felt", FULL, buried.lift(0));
+        check.due("3: OFF of the EATEN of twelve", 0, buried.told(0, 4));
+        check.due("3: OFF in THE BAG of twelve", 0, buried.told(1, 4));
+        check.due("3: OFF of the lowest of twelve", 9, buried.told(2, 4));
         WormHeap full = new WormHeap();
         twelve(full);
         check.due("3: the first of twelve", 0, full.told(0, 0));

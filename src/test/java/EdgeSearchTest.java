@@ -22,6 +22,7 @@ final class EdgeSearchTest {
         hadOfTwelve();
         hadCodesAtTheirBounds();
         hadByTheFirstRow();
+        hadBySwapsAhead();
         hadChangesNothing();
         hadRefuses();
         underBounds();
@@ -169,6 +170,39 @@ final class EdgeSearchTest {
         dueRow("the lift from its own PLACE is needed twice", w, 0, 0, 0);
     }
 
+    /** What is near enough is fetched by swaps for what is near enough to it: one, two, three of them; four are too many. */
+    private static void hadBySwapsAhead() {
+        dueRow("one swap", Check.made("k20@5,l25"), 0, 2501);
+        dueRow("two swaps", Check.made("k20@5,l25@1,l28"), 0, 2102, 2501);
+        dueRow("three swaps", Check.made("k20@5,l25@1,l28@2,l31"), 0, 2203, 2102, 2501);
+        dueNone("four swaps", Check.made("k20@5,l25@1,l28@2,l31@3,l34"), 0);
+        dueRow("one swap, lighter ones", Check.made("k20@5,l19"), 0, 2501);
+        dueRow("two swaps, lighter ones", Check.made("k20@5,l19@1,l16"), 0, 2102, 2501);
+        dueRow("three swaps, lighter ones", Check.made("k20@5,l19@1,l16@2,l13"), 0, 2203, 2102, 2501);
+        dueNone("four swaps, lighter ones", Check.made("k20@5,l19@1,l16@2,l13@3,l10"), 0);
+        dueNone("one swap that is felt", Check.made("k20@5,l26"), 0);
+        dueNone("the second of two is felt", Check.made("k20@5,l26@1,l28"), 0);
+        dueNone("the first of two is felt", Check.made("k20@5,l25@1,l29"), 0);
+        dueNone("the first of three is felt", Check.made("k20@5,l25@1,l28@2,l32"), 0);
+        // A lift ahead: of what lies on it, or of what is laid.
+        dueRow("lift, then swap", Check.made("k20@5,c1@5,l25"), 0, 500, 2502);
+        dueRow("lift, then two swaps", Check.made("k20@5,c1@5,l25@1,l28"), 0, 500, 2103, 2502);
+        dueRow("two lifts, then swap", Check.made("k20@5,c1@5,c2@5,l25"), 0, 500, 500, 2503);
+        dueNone("three lifts, then swap", Check.made("k20@5,c1@5,c2@5,c3@5,l25"), 0);
+        dueNone("two lifts, then two swaps", Check.made("k20@5,c1@5,c2@5,l25@1,l28"), 0);
+        WormHeap x = Check.made("k20@5,l22@1,c3@1,c40@2");
+        x.sense(1, 22);
+        dueRow("two lifts elsewhere, then swap", x, 0, 100, 100, 2501);
+        x.sense(2, 38);
+        dueRow("the other way about is no shorter", x, 0, 100, 100, 2501);
+        x.sense(1, 21);
+        dueRow("a lift that is felt is a swap", x, 0, 100, 2102, 2501);
+        x.sense(1, 19);
+        dueRow("by its sense", x, 0, 100, 2102, 2501);
+        x.sense(1, 18);
+        dueNone("what is to be laid can be had by four only", x, 0);
+    }
+
     private static void hadChangesNothing() {
         for (int piece = 0; piece < 8; piece++) {
             for (int i = -1; i < 3; i++) {
@@ -260,8 +294,25 @@ final class EdgeSearchTest {
         }
     }
 
+    /** Whichever TOWNS they are, and in whichever order the PIECES came: OWN is the same. */
     private static void dueOwn(String heap, int due) {
-        check.due("17: own of " + heap, due, Check.made(heap).own());
+        for (int order = 0; order < 256; order++) {
+            int[] towns = {order & 3, order >> 2 & 3, order >> 4 & 3, order >> 6 & 3};
+            int all = 1 << towns[0] | 1 << towns[1] | 1 << towns[2] | 1 << towns[3];
+            if (all == 15) {
+                StringBuilder forth = new StringBuilder();
+                StringBuilder back = new StringBuilder();
+                for (String piece : heap.split(",")) {
+                    int town = piece.indexOf('t') > 0 ? piece.charAt(piece.indexOf('t') + 1) - '0' : 0;
+                    String word = piece.split("[t@]")[0] + "t" + towns[town]
+                        + (piece.indexOf('@') > 0 ? piece.substring(piece.indexOf('@')) : "");
+                    forth.append(forth.length() > 0 ? "," : "").append(word);
+                    back.insert(0, back.length() > 0 ? "," : "").insert(0, word);
+                }
+                check.due("17: own of " + forth, due, Check.made(forth.toString()).own());
+                check.due("17: own of " + back, due, Check.made(back.toString()).own());
+            }
+        }
     }
 
     private static void ownOfNone() {

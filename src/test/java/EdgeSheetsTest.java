@@ -45,6 +45,7 @@ final class EdgeSheetsTest {
         sheetOfNoneTo24();
         sheetIsNew();
         sheetRefuses();
+        castOfEachLane();
         dropOfEach();
         dropRefuses();
         itemByTheLanes();
@@ -539,6 +540,26 @@ final class EdgeSheetsTest {
                 twins.unchanged("25: SIZE, n " + n, EdgeSheetsTest::some, SIZE, x -> x.sheet(s, 0, n));
             }
             twins.unchanged("25: SIZE, n " + n + ", of nothing", EdgeSheetsTest::some, SIZE, x -> x.sheet(3, 1, n));
+        }
+    }
+
+    /** "CAST -12 (of SHEETS another LANE)": of each one, for each call that takes it as a row of another one. */
+    private static void castOfEachLane() {
+        for (int sheet = 0; sheet < 4; sheet++) {
+            for (int lane = 0; lane < 3; lane++) {
+                for (int told = 0; told < 3; told++) {
+                    for (int n : new int[] {0, 24}) {
+                        WormHeap x = new WormHeap();
+                        x.sheet(sheet, lane, n);
+                        int refused = lane != told ? CAST : n == 0 ? INDEX : 0;
+                        String of = sheet + ", " + lane + " as " + told;
+                        check.due("22: " + of, refused != 0 ? refused : 1, x.dents(sheet, told, 18, 0));
+                        check.due("23: " + of, refused != 0 ? refused : 99, x.tried(sheet, told, 22, 1, 1));
+                        check.due("24: " + of, refused != 0 ? refused : 6, x.film(sheet, told, 18));
+                        check.due("27: " + of, refused != 0 ? refused : 1, x.item(sheet, told, 23, 1));
+                    }
+                }
+            }
         }
     }
 

@@ -21,6 +21,7 @@ final class EdgeTextsTest {
         typeRefusesBytes();
         typeIsFullAt120();
         typeLooksAtTheLowestBytesOnly();
+        tapeForgetsWhatWasRead();
         heapEmptiesTheTape();
         heapOfOneToTwelve();
         heapNumbers();
@@ -137,6 +138,34 @@ final class EdgeTextsTest {
             WormHeap x = new WormHeap();
             check.due("6: above the lowest " + n + " all ones", n, x.type(above | Check.word("ccccccc") & ~above, n));
             check.due("6: above the lowest " + n + " none", 2 * n, x.type(Check.word("ccccccc") & ~above, n));
+        }
+    }
+
+    /** "THE TAPE, which is empty then": what stood there once is no part of a shorter text. */
+    private static void tapeForgetsWhatWasRead() {
+        String[] once = {"c15@0,k9t3", "c1 5", "      ", "~~~~~~~~", "9999999999", "t1@2,c1", ",,,,,,,,", "l0;l0;l0", "da>0;l0"};
+        Object[][] then = {{"", -20}, {" ", -21}, {"c", -21}, {"c ", -22}, {"c1", 1}, {"c1t", -23}, {"c1t2", 1}, {"c1t2@", -25},
+            {"c1,", -23}, {"c1 ", 1}, {"c1,k", -24}};
+        for (String text : once) {
+            for (Object[] row : then) {
+                WormHeap x = new WormHeap();
+                Check.heap(x, text);
+                check.due("7: " + row[0] + " behind " + text, (Integer) row[1], Check.heap(x, (String) row[0]));
+                if ((Integer) row[1] > 0) {
+                    check.due("7: weighs behind " + text, 1, x.told(0, 1));
+                }
+                Check.night(x, text);
+                check.due("7: " + row[0] + " behind a NIGHT " + text, (Integer) row[1], Check.heap(x, (String) row[0]));
+            }
+        }
+        Object[][] nights = {{"", -20}, {" ", -21}, {"l", -21}, {"l0", 1}, {"l0;", -23}, {"l0 ", 1}, {"d", -21}, {"da", -22},
+            {"db>", -23}, {"db>1", 1}, {"p0>", -23}, {"p0>1;", -25}};
+        for (String text : once) {
+            for (Object[] row : nights) {
+                WormHeap x = Check.made("c1@0,c1");
+                Check.night(x, text.replace('l', 'x').replace('d', 'x'));
+                check.due("8: " + row[0] + " behind " + text, (Integer) row[1], Check.night(x, (String) row[0]));
+            }
         }
     }
 

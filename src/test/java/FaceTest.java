@@ -44,12 +44,12 @@ final class FaceTest {
         }
         check.due("eight constants", 8, constants);
         check.due("one constructor", 1, WormHeap.class.getConstructors().length);
-        check.due("no other constructor", 1, WormHeap.class.getDeclaredConstructors().length);
+        check.due("it takes nothing", 0, WormHeap.class.getConstructors()[0].getParameterCount());
         check.holds("final", Modifier.isFinal(WormHeap.class.getModifiers()));
         check.done();
     }
 
     private static boolean isSeen(Member member) {
-        return !member.isSynthetic() && !Modifier.isPrivate(member.getModifiers());
+        return !member.isSynthetic() && (member.getModifiers() & (Modifier.PUBLIC | Modifier.PROTECTED)) != 0;
     }
 }
