@@ -31,6 +31,7 @@ final class EdgePiecesTest {
     public static void main(String[] args) {
         aNewObjectIsEmpty();
         objectsShareNothing();
+        the512thCallIsAnswered();
         pieceTakesItsBounds();
         pieceRefuses();
         pieceIsFullAtTwelve();
@@ -83,6 +84,16 @@ final class EdgePiecesTest {
         some(used);
         twins.same("1: a new object beside a used one", new WormHeap(), new WormHeap());
         check.due("1: nor does the used one lose by it", 8, used.count(0));
+    }
+
+    /** "An object is used for at most 512 calls": the last of them is one like the others. */
+    private static void the512thCallIsAnswered() {
+        WormHeap x = new WormHeap();
+        int was = 3;
+        for (int i = 1; i <= 512; i++) {
+            check.due("5: call " + i, was, x.sense(5, i * 7 % 100));
+            was = i * 7 % 100;
+        }
     }
 
     /** KIND 0 .. 3, WEIGHT 1 .. 99, TOWN 0 .. 3, PLACE 0 .. 5 or 6. */
